@@ -1093,10 +1093,13 @@ public final class ExamHalls {
 
         /** The two readings whose marks make the score, as bits; 0 where there is none. */
         private int countingReadings(int apart) {
-            if (readingCount < 2 || markedCount() < readingCount || wantsThird(apart)) {
+            if (readingCount < 2 || markedCount() < readingCount) {
                 return 0;
             }
-            return readingCount == 2 ? 1 << 0 | 1 << 1 : nearestTwo();
+            if (readingCount > 2) {
+                return nearestTwo();
+            }
+            return difference(0, 1) > apart ? 0 : 1 << 0 | 1 << 1;
         }
 
         private int nearestTwo() {

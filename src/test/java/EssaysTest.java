@@ -130,6 +130,7 @@ public final class EssaysTest {
         Check.due("all the words", Check.write(x, 0, Check.repeat(leg, "\n", 8)), 96);
         Check.due("the last of all", x.word(0, 7, 11), 'a');
         Check.due("words count anew in a leg", Check.write(x, 0, leg + "\n" + leg), 24);
+        Check.due("thirteen in the second leg", Check.write(x, 0, leg + "\n" + leg + " a"), -57);
         String full = Check.repeat("abcdefgh", " ", 12) + "\n" + Check.repeat("abcdefgh", " ", 12) + "\n"
                 + Check.repeat("abcdefg", " ", 4) + "\nab";
         Check.due("250 bytes", full.length(), 250);
@@ -197,6 +198,8 @@ public final class EssaysTest {
         Check.due("three words", x.judge(0), 0);
         Check.write(x, 0, "a a a a");
         Check.due("four words", x.judge(0), 200);
+        Check.due("measure(0, 1, 1)", x.measure(0, 1, 1), 0);
+        Check.due("four for one", x.judge(0), 200);
         Check.due("measure(0, 4, 4)", x.measure(0, 4, 4), 0);
         Check.due("four and four", x.judge(0), 0);
     }
@@ -204,6 +207,8 @@ public final class EssaysTest {
     private static void parallels() {
         ExamHalls x = Check.hallsOf(0);
         Check.due("parallel(-1, 0)", x.parallel(-1, 0), NONE);
+        Check.due("parallel(8, 0)", x.parallel(8, 0), NONE);
+        Check.due("parallel(0, -1)", x.parallel(0, -1), NONE);
         Check.due("parallel(0, 8)", x.parallel(0, 8), NONE);
         Check.due("parallel(8, 8)", x.parallel(8, 8), NONE);
         Check.due("parallel(3, 3)", x.parallel(3, 3), BAD);

@@ -17,6 +17,7 @@ public final class PassingTest {
         striking();
         ifStruck();
         ifStruckWithTies();
+        askedFirst();
         Check.end();
     }
 
@@ -297,6 +298,45 @@ public final class PassingTest {
         enter(x, 1, 99);
         x.quota(1, 1);
         Check.due("of another province", x.ifStruck(4), 0);
+    }
+
+    /** What was worked out for an earlier question must not answer this one. */
+    private static void askedFirst() {
+        ExamHalls x = marked(60, 50, 40);
+        x.quota(0, 2);
+        Check.due("ifStruck, asked first", x.ifStruck(0), 1);
+        x = marked(60, 50, 40);
+        x.quota(0, 2);
+        Check.due("count(8), asked first", x.count(8), 2);
+        x = marked(60, 50, 40);
+        x.quota(0, 2);
+        Check.due("passed, asked first", x.passed(0), 2);
+        x = byShiftsApart();
+        x.rule(0, 1);
+        Check.due("passes by scaled, asked first", x.passes(0), 0);
+        x = byShiftsApart();
+        x.rule(0, 1);
+        Check.due("the other by scaled, asked first", x.passes(1), 1);
+    }
+
+    /** Two for one place: 102 against 100 by score, 53 against 149 scaled. */
+    private static ExamHalls byShiftsApart() {
+        ExamHalls x = Check.hallsOf(0, 0);
+        x.reader(1, 0);
+        x.reader(1, 1);
+        x.reader(1, 2);
+        for (int c = 0; c < 2; c++) {
+            x.number(c, c);
+            Check.write(x, c, "a");
+        }
+        x.share();
+        x.apart(99);
+        x.quota(0, 1);
+        x.mark(0, 0, 51);
+        x.mark(0, 1, 51);
+        x.mark(1, 2, 1);
+        x.mark(1, 0, 99);
+        return x;
     }
 
     private static void ifStruckWithTies() {

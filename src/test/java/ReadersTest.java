@@ -339,6 +339,13 @@ public final class ReadersTest {
         Check.due("the nearest are 0 and 1", x.score(0, 0), 82);
         x.mark(0, 1, 80);
         Check.due("of like differences the greater", x.score(0, 0), 140);
+        x.mark(0, 0, 80);
+        x.mark(0, 1, 60);
+        x.mark(0, 2, 40);
+        Check.due("of like differences the greater, turned", x.score(0, 0), 140);
+        x.mark(0, 1, 40);
+        x.mark(0, 2, 60);
+        Check.due("of like differences the greater, between", x.score(0, 0), 140);
         x.mark(0, 0, 99);
         x.mark(0, 1, 0);
         x.mark(0, 2, 50);

@@ -37,6 +37,8 @@ public final class SealsTest {
         Check.due("nobody", x.sees(0, 1, 0, 1), NONE);
         Check.due("part -1", x.sees(0, 0, -1, 1), NONE);
         Check.due("part 4", x.sees(0, 0, 1, 4), NONE);
+        Check.due("part 4, turned", x.sees(0, 0, 4, 1), NONE);
+        Check.due("part -1, turned", x.sees(0, 0, 1, -1), NONE);
         Check.due("part 4 twice", x.sees(0, 0, 4, 4), NONE);
         Check.due("one part, no hand", x.sees(8, 0, 1, 1), NONE);
         Check.due("one part, nobody", x.sees(0, 1, 1, 1), NONE);
