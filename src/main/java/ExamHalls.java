@@ -5,8 +5,8 @@
 public final class ExamHalls {
     public static final int NONE = -1, BAD = -2, STATE = -3, FULL = -4;
 
-    // Where NONE is an answer of its own, the missing candidate or reader is told by another number.
-    private static final int NOBODY = -5, NO_SHIFT = -1000;
+    // Where NONE is an answer of its own, what there is not is told by another number.
+    private static final int NOBODY = -5, NO_SHIFT = -1000, NO_MARK = -2;
     private static final int FAULTS_FROM = -10;
 
     private static final int MOST_CANDIDATES = 24, MOST_READERS = 6, MOST_READINGS = 3;
@@ -215,10 +215,12 @@ public final class ExamHalls {
 
     public int fewest() {
         int best = 0;
+        // A way from NAME to NUMBER has three steps at most, so no set of more hands is the fewest.
+        int fewer = PARTS;
         for (int set = 1; set < 1 << HANDS; set++) {
-            boolean isFewer = best == 0 || Integer.bitCount(set) < Integer.bitCount(best);
-            if (isFewer && openedBy(set) > 0) {
+            if (Integer.bitCount(set) < fewer && openedBy(set) > 0) {
                 best = set;
+                fewer = Integer.bitCount(set);
             }
         }
         return best;
@@ -280,7 +282,7 @@ public final class ExamHalls {
             return who.readerAt(i);
         }
         if (what == 1) {
-            return who.isMarked(i) ? who.markAt(i) : BAD;
+            return who.isMarked(i) ? who.markAt(i) : NO_MARK;
         }
         return NONE;
     }
