@@ -32,6 +32,7 @@ public final class EdgesOfReadingsTest {
         scoreOfThree();
         likeDifferences();
         scaledWithin();
+        scaledByEachReader();
         scaledByMarksAsGiven();
         Check.end();
     }
@@ -609,6 +610,31 @@ public final class EdgesOfReadingsTest {
             int due = (mark > 89 ? 99 : mark + 10) + (mark < 10 ? 0 : mark - 10);
             Check.due("scaled of " + mark, x.score(0, 1), due);
             Check.due("as given", x.score(0, 0), 2 * mark);
+        }
+    }
+
+    // "each MARK is more by its READER's SHIFT": each of six readers has one of its own
+    private static void scaledByEachReader() {
+        ExamHalls x = written(6);
+        for (int r = 0; r < 6; r++) {
+            x.reader(1, r % 4);
+        }
+        x.apart(99);
+        Check.due("two for each", x.share(), 12);
+        for (int one = 0; one < 6; one += 2) {
+            int c = one / 2;
+            int shift = 20 + 5 * c;
+            Check.due("the readings of " + c, x.mark(c, one, 0), 0);
+            Check.due("by two of their own", x.mark(c, one + 1, 2 * shift), 0);
+            Check.due("the readings of " + (c + 3), x.mark(c + 3, one, 0), 0);
+            Check.due("by the same two", x.mark(c + 3, one + 1, 0), 0);
+            Check.due("shift of " + one, x.shift(one), shift);
+            Check.due("shift of " + (one + 1), x.shift(one + 1), -shift);
+            Check.due("kept from below, more by " + one, x.score(c + 3, 1), shift);
+            x.mark(c + 3, one, 99);
+            x.mark(c + 3, one + 1, 99);
+            Check.due("kept from above, less by " + (one + 1), x.score(c + 3, 1), 99 + 99 - shift);
+            Check.due("as given", x.score(c + 3, 0), 198);
         }
     }
 
